@@ -913,7 +913,7 @@ public final class CornerStones {
             int c = game.colourAt(k);
             switch (kind) {
                 case 3:
-                    return isColour(digit) && c == digit;
+                    return c != NONE && c == digit;
                 case 4:
                     return c != NONE && Long.bitCount(game.libertiesAt(k)) >= digit;
                 case 5:

@@ -19,6 +19,7 @@ public final class PromisesTest {
         whyTheSameAgain();
         whyAnyAgain();
         whyWithSet();
+        whyTwoMovesBefore();
         mostMoves();
         board();
         play();
@@ -362,6 +363,8 @@ public final class PromisesTest {
         Checks.due("one corner of two", () -> edge.point(2, 3), 1);
         CornerStones clear = drawn(0, ".X.X.", ".XX..", ".....", ".....", ".....");
         Checks.due("an own stone in the corner", () -> clear.point(2, 3), 2);
+        CornerStones wrapped = drawn(0, "..X..", "XX..X", "...X.", "O...X", ".....");
+        Checks.due("the row's other end is no corner", () -> wrapped.point(14, 3), 2);
         CornerStones corner = drawn(0, ".X...", "XO...", ".....", ".....", ".....");
         Checks.due("the only corner of one", () -> corner.point(0, 3), 1);
         Checks.due("false eyes are none beside the group", () -> corner.point(1, 5), 0);
@@ -455,6 +458,20 @@ public final class PromisesTest {
         Checks.due("choices with 0", () -> x.choices(), 17);
     }
 
+    /** Two stones are sent, one comes back: the position is that ahead of the latest three moves, not of the latest. */
+    private static void whyTwoMovesBefore() {
+        CornerStones x = drawn(0, ".X.X.", "OOX..", ".....", ".....", ".....");
+        x.play(0);
+        Checks.due("two are taken", () -> x.play(2), 2);
+        Checks.due("a position before that ahead of the latest move", () -> x.why(1), 0);
+        x.set(1);
+        Checks.due("any position", () -> x.why(1), 3);
+        Checks.thrown("it is not laid", () -> x.play(1), Checks.STATE);
+        x.set(0);
+        Checks.due("one is taken back", () -> x.play(1), 1);
+        same(x, ".X.X.", "OOX..", ".....", ".....", ".....");
+    }
+
     private static void mostMoves() {
         CornerStones x = drawn(0, ".O..", "OO..", "..XX", ".XX.");
         while (x.about(1) < 119) {
@@ -539,6 +556,11 @@ public final class PromisesTest {
         y.pass();
         y.board(3);
         Checks.due("passes of the board before", () -> y.about(4) + y.about(3), 0);
+        CornerStones z = drawn(1, "XO.", "...", "...");
+        z.play(3);
+        Checks.due("captives of 1", () -> z.colour(1, 1), 1);
+        z.board(3);
+        Checks.due("captives of 1 on another board", () -> z.colour(1, 1), 0);
     }
 
     private static void play() {
@@ -610,7 +632,11 @@ public final class PromisesTest {
         Checks.due("what stays", () -> x.stones(0), 1);
         x.play(1);
         x.pass();
-        Checks.due("undo of a pass", () -> x.undo(), 1);
+        x.pass();
+        Checks.due("two passes", () -> x.about(4), 1);
+        Checks.due("undo of a pass", () -> x.undo(), 2);
+        Checks.due("one pass is left", () -> x.about(4), 0);
+        Checks.due("undo of the other one", () -> x.undo(), 1);
         Checks.due("the passes then", () -> x.about(3), 0);
         Checks.thrown("a call that throws", () -> x.play(1), Checks.STATE);
         Checks.due("is no action", () -> x.undo(), 0);
