@@ -1,3 +1,9 @@
+import java.io.IOException;
+import java.nio.charset.StandardCharsets;
+import java.nio.file.Files;
+import java.nio.file.Path;
+import java.util.TreeSet;
+
 /** Counts what the tests of one main method find; every wrong answer is printed. */
 final class Checks {
     interface Call {
@@ -10,6 +16,8 @@ final class Checks {
 
     private static int checked = 0;
     private static int wrong = 0;
+    private static String title = "";
+    private static final TreeSet<String> TITLES = new TreeSet<>();
 
     private Checks() {
     }
@@ -36,13 +44,60 @@ final class Checks {
         if (!got.equals(want)) {
             wrong++;
             if (wrong <= 50) {
-                System.out.println(name + " answered " + got + ", due is " + want);
+                System.out.println(title + name + " answered " + got + ", due is " + want);
             }
         }
     }
 
+    /** Runs the test of one sentence: what it finds wrong is told with the promise and the sentence that it holds. */
+    static void holds(String promise, String sentence, Runnable test) {
+        int checkedBefore = checked;
+        int wrongBefore = wrong;
+        same(promise + ": a title of its own, " + sentence, "" + TITLES.add(promise + " | " + sentence), "true");
+        same(promise + ": a sentence of the document, " + sentence, "" + isInDocument(sentence), "true");
+        title = "[" + promise + ": " + sentence + "] ";
+        try {
+            test.run();
+        } catch (RuntimeException e) {
+            same("the test", "throws " + e, "an end");
+        }
+        same("the test's checks", "" + (checked > checkedBefore + 2), "true");
+        title = "";
+        if (wrong != wrongBefore) {
+            System.out.println("BROKEN  " + promise + ": " + sentence);
+        }
+    }
+
+    /** How many sentences have a test that names the promise with this number. */
+    static int sentencesOf(int promise) {
+        int count = 0;
+        for (String one : TITLES) {
+            count += one.startsWith("Promise " + promise + ",") ? 1 : 0;
+        }
+        return count;
+    }
+
+    private static boolean isInDocument(String sentence) {
+        String document = System.getProperty("document", "");
+        return document.isEmpty() || plain(read(document)).contains(plain(sentence));
+    }
+
+    private static String read(String file) {
+        try {
+            return Files.readString(Path.of(file), StandardCharsets.UTF_8);
+        } catch (IOException e) {
+            return "";
+        }
+    }
+
+    /** The words alone, as the document breaks its lines anywhere. */
+    private static String plain(String text) {
+        return text.replace("`", "").replaceAll("\\s+", " ");
+    }
+
     static void end(String name) {
-        System.out.println(name + ": " + checked + " checks, " + wrong + " wrong");
+        System.out.println(name + ": " + checked + " checks, " + wrong + " wrong"
+                + (TITLES.isEmpty() ? "" : ", " + TITLES.size() + " sentences"));
         if (wrong != 0 || checked == 0) {
             System.exit(1);
         }

@@ -40,65 +40,6 @@ public final class PromisesTest {
         Checks.end("PromisesTest");
     }
 
-    /** Lays out the board, with X for stones of the colour 0 and O for those of 1; then the colour has the turn. */
-    private static CornerStones drawn(int turn, String... rows) {
-        CornerStones x = new CornerStones();
-        draw(x, turn, rows);
-        return x;
-    }
-
-    private static void draw(CornerStones x, int turn, String... rows) {
-        x.board(rows.length);
-        for (int r = 0; r < rows.length; r++) {
-            for (int c = 0; c < rows.length; c++) {
-                char sign = rows[r].charAt(c);
-                if (sign != '.') {
-                    turnTo(x, sign == 'X' ? 0 : 1);
-                    x.play(r * rows.length + c);
-                }
-            }
-        }
-        turnTo(x, turn);
-        same(x, rows);
-    }
-
-    private static void turnTo(CornerStones x, int turn) {
-        if (x.about(2) != turn) {
-            x.pass();
-        }
-    }
-
-    /** Checks that the board is as drawn. */
-    private static void same(CornerStones x, String... rows) {
-        long[] want = new long[2];
-        for (int r = 0; r < rows.length; r++) {
-            for (int c = 0; c < rows.length; c++) {
-                char sign = rows[r].charAt(c);
-                if (sign != '.') {
-                    want[sign == 'X' ? 0 : 1] |= 1L << (r * rows.length + c);
-                }
-            }
-        }
-        Checks.due("the rows", () -> x.about(0), rows.length);
-        Checks.due("the stones of 0", () -> x.stones(0), want[0]);
-        Checks.due("the stones of 1", () -> x.stones(1), want[1]);
-    }
-
-    private static void write(CornerStones x, String text) {
-        x.clearText();
-        for (int i = 0; i < text.length(); i++) {
-            x.append(text.charAt(i));
-        }
-    }
-
-    private static long set(int... points) {
-        long set = 0;
-        for (int k : points) {
-            set |= 1L << k;
-        }
-        return set;
-    }
-
     private static void newObject() {
         CornerStones x = new CornerStones();
         Checks.due("NONE", () -> CornerStones.NONE, -1);
@@ -136,11 +77,11 @@ public final class PromisesTest {
 
     private static void clearText() {
         CornerStones x = new CornerStones();
-        write(x, "B5p");
+        Boards.write(x, "B5p");
         Checks.due("clearText", () -> x.clearText(), 3);
         Checks.due("clearText again", () -> x.clearText(), 0);
         Checks.due("nothing is left", () -> x.errorPosition(), 0);
-        write(x, "B5");
+        Boards.write(x, "B5");
         x.board(3);
         x.undo();
         Checks.due("undo keeps the text", () -> x.clearText(), 2);
@@ -184,7 +125,7 @@ public final class PromisesTest {
 
     private static void erring(String text, int want) {
         CornerStones x = new CornerStones();
-        write(x, text);
+        Boards.write(x, text);
         Checks.due("errorPosition of " + text, () -> x.errorPosition(), want);
         if (want == -1) {
             Checks.same("load " + text, Boolean.toString(Checks.told(() -> x.load()).startsWith("throws")), "false");
@@ -196,42 +137,42 @@ public final class PromisesTest {
     private static void load() {
         CornerStones x = new CornerStones();
         // the 16 is not on the board, the second 00 not empty; the moves left out are no turns
-        write(x, "B40016p0000p01");
+        Boards.write(x, "B40016p0000p01");
         Checks.due("load", () -> x.load(), 3);
-        same(x, "XO..", "....", "....", "....");
+        Boards.same(x, "XO..", "....", "....", "....");
         Checks.due("moves that were done", () -> x.about(1), 4);
         Checks.due("passes that were done", () -> x.about(3), 2);
         Checks.due("load keeps the text", () -> x.load(), 3);
         Checks.due("setting 0 behind it", () -> x.about(7), 0);
-        write(x, "B3s");
+        Boards.write(x, "B3s");
         Checks.due("load without moves", () -> x.load(), 0);
         Checks.due("setting 0 behind the s", () -> x.about(7), 1);
         Checks.due("the rows that are told", () -> x.about(0), 3);
-        write(x, "B7");
+        Boards.write(x, "B7");
         x.load();
         Checks.due("without s setting 0 is 0", () -> x.about(7), 0);
         Checks.due("the rows that are told then", () -> x.about(0), 7);
-        write(x, "B548");
+        Boards.write(x, "B548");
         Checks.due("a point of a larger board is left out", () -> x.load(), 1);
-        write(x, "B748");
+        Boards.write(x, "B748");
         Checks.due("a point of this board is not", () -> x.load(), 0);
     }
 
     private static void loadForgets() {
-        CornerStones x = drawn(0, "OX.", "...", "...");
+        CornerStones x = Boards.drawn(0, "OX.", "...", "...");
         x.set(1);
         x.play(3);
         x.save(0);
         x.save(1);
         Checks.due("captives before", () -> x.colour(0, 1), 1);
-        write(x, "B5x");
+        Boards.write(x, "B5x");
         Checks.thrown("load what is no game", () -> x.load(), Checks.STATE);
         Checks.due("that changes nothing", () -> x.about(0), 3);
         Checks.due("nor the save slots", () -> x.restore(1), x.about(1));
         x.set(1);
-        write(x, "B3");
+        Boards.write(x, "B3");
         Checks.due("load", () -> x.load(), 0);
-        same(x, "...", "...", "...");
+        Boards.same(x, "...", "...", "...");
         Checks.due("captives behind it", () -> x.colour(0, 1), 0);
         Checks.due("moves behind it", () -> x.about(1), 0);
         Checks.due("setting 0 behind it", () -> x.about(7), 0);
@@ -241,7 +182,7 @@ public final class PromisesTest {
     }
 
     private static void about() {
-        CornerStones x = drawn(1, ".O.O", "OO..", "..X.", "....");
+        CornerStones x = Boards.drawn(1, ".O.O", "OO..", "..X.", "....");
         Checks.due("the rows", () -> x.about(0), 4);
         Checks.due("the colour that has the turn", () -> x.about(2), 1);
         Checks.due("the groups", () -> x.about(5), 3);
@@ -268,7 +209,7 @@ public final class PromisesTest {
         Checks.due("the colour with the turn", () -> x.about(2), 0);
         x.set(1);
         Checks.due("setting 0", () -> x.about(7), 1);
-        CornerStones y = drawn(0, "XO.", "...", "..O");
+        CornerStones y = Boards.drawn(0, "XO.", "...", "..O");
         Checks.due("a group with just one liberty", () -> y.about(6), 1);
         Checks.due("all groups", () -> y.about(5), 3);
         Checks.due("moves before", () -> moves > 0 ? 1 : 0, 1);
@@ -277,17 +218,17 @@ public final class PromisesTest {
     }
 
     private static void stonesAndGroup() {
-        CornerStones x = drawn(0, ".XX.O", "...X.", "..O..", ".....", "X...X");
-        Checks.due("stones 0", () -> x.stones(0), set(1, 2, 8, 20, 24));
-        Checks.due("stones 1", () -> x.stones(1), set(4, 12));
+        CornerStones x = Boards.drawn(0, ".XX.O", "...X.", "..O..", ".....", "X...X");
+        Checks.due("stones 0", () -> x.stones(0), Boards.set(1, 2, 8, 20, 24));
+        Checks.due("stones 1", () -> x.stones(1), Boards.set(4, 12));
         Checks.thrown("stones -1", () -> x.stones(-1), Checks.INDEX);
         Checks.thrown("stones 2", () -> x.stones(2), Checks.INDEX);
-        Checks.due("across is no neighbour", () -> x.group(2, 0), set(1, 2));
-        Checks.due("its liberties", () -> x.group(1, 1), set(0, 3, 6, 7));
+        Checks.due("across is no neighbour", () -> x.group(2, 0), Boards.set(1, 2));
+        Checks.due("its liberties", () -> x.group(1, 1), Boards.set(0, 3, 6, 7));
         // 4 and 5, 19 and 20 have numbers side by side, but are not in one row
-        Checks.due("the ends of rows are no neighbours", () -> x.group(4, 1), set(3, 9));
-        Checks.due("nor are they at the left edge", () -> x.group(20, 1), set(15, 21));
-        Checks.due("the last point", () -> x.group(24, 1), set(19, 23));
+        Checks.due("the ends of rows are no neighbours", () -> x.group(4, 1), Boards.set(3, 9));
+        Checks.due("nor are they at the left edge", () -> x.group(20, 1), Boards.set(15, 21));
+        Checks.due("the last point", () -> x.group(24, 1), Boards.set(19, 23));
         Checks.due("an empty point", () -> x.group(0, 0), 0);
         Checks.due("an empty point's liberties", () -> x.group(0, 1), 0);
         Checks.thrown("group -1", () -> x.group(-1, 0), Checks.INDEX);
@@ -295,15 +236,15 @@ public final class PromisesTest {
         Checks.thrown("group 25, 2", () -> x.group(25, 2), Checks.INDEX);
         Checks.thrown("group 0, 2", () -> x.group(0, 2), Checks.ARGUMENT);
         Checks.thrown("group 1, -1", () -> x.group(1, -1), Checks.ARGUMENT);
-        CornerStones y = drawn(0, ".......", ".......", ".......", "...X...", ".......", "......O", ".....OO");
-        Checks.due("the last point of the largest board", () -> y.stones(1), set(41, 47, 48));
-        Checks.due("its group's liberties", () -> y.group(48, 1), set(34, 40, 46));
-        Checks.due("in the middle", () -> y.group(24, 1), set(17, 23, 25, 31));
+        CornerStones y = Boards.drawn(0, ".......", ".......", ".......", "...X...", ".......", "......O", ".....OO");
+        Checks.due("the last point of the largest board", () -> y.stones(1), Boards.set(41, 47, 48));
+        Checks.due("its group's liberties", () -> y.group(48, 1), Boards.set(34, 40, 46));
+        Checks.due("in the middle", () -> y.group(24, 1), Boards.set(17, 23, 25, 31));
     }
 
     private static void colour() {
         // the part of 0 and 1 has neighbours of X alone, that of 4 of O alone, the others of both
-        CornerStones x = drawn(0, "..XO.", "XXX.O", ".....", "....X", ".....");
+        CornerStones x = Boards.drawn(0, "..XO.", "XXX.O", ".....", "....X", ".....");
         Checks.due("stones of 0", () -> x.colour(0, 0), 5);
         Checks.due("area of 0", () -> x.colour(0, 2), 7);
         Checks.due("groups of 0", () -> x.colour(0, 5), 2);
@@ -314,7 +255,7 @@ public final class PromisesTest {
         Checks.due("true eyes of 1", () -> x.colour(1, 3), 1);
         Checks.due("false eyes of 1", () -> x.colour(1, 4), 0);
         Checks.due("captives", () -> x.colour(0, 1) + x.colour(1, 1), 0);
-        CornerStones y = drawn(0, "OX.", "...", "...");
+        CornerStones y = Boards.drawn(0, "OX.", "...", "...");
         y.play(3);
         Checks.due("captives of the one who laid", () -> y.colour(0, 1), 1);
         Checks.due("captives of the other one", () -> y.colour(1, 1), 0);
@@ -329,7 +270,7 @@ public final class PromisesTest {
     }
 
     private static void point() {
-        CornerStones x = drawn(0, ".XX.O", "XX...", ".....", "..O..", "..OO.");
+        CornerStones x = Boards.drawn(0, ".XX.O", "XX...", ".....", "..O..", "..OO.");
         pointIs(x, 2, 0, 4, 5, 0, 0, 1);
         pointIs(x, 0, -1, 0, 0, 2, 1, 0);
         pointIs(x, 8, -1, 0, 0, 0, 16, 0);
@@ -340,7 +281,7 @@ public final class PromisesTest {
         Checks.thrown("point 25, 6", () -> x.point(25, 6), Checks.INDEX);
         Checks.thrown("point 0, 6", () -> x.point(0, 6), Checks.ARGUMENT);
         Checks.thrown("point 24, -1", () -> x.point(24, -1), Checks.ARGUMENT);
-        CornerStones y = drawn(0, ".X.X.", "XXXX.", ".....", ".....", ".....");
+        CornerStones y = Boards.drawn(0, ".X.X.", "XXXX.", ".....", ".....", ".....");
         Checks.due("two true eyes beside a group", () -> y.point(6, 5), 2);
         Checks.due("none beside no stone", () -> y.point(0, 5), 0);
     }
@@ -353,32 +294,32 @@ public final class PromisesTest {
     }
 
     private static void falseEyes() {
-        CornerStones inner = drawn(0, ".....", "..XO.", ".X.X.", "..X..", ".....");
+        CornerStones inner = Boards.drawn(0, ".....", "..XO.", ".X.X.", "..X..", ".....");
         Checks.due("one corner of four", () -> inner.point(12, 3), 2);
-        CornerStones two = drawn(0, ".....", ".OX..", ".X.X.", "..XO.", ".....");
+        CornerStones two = Boards.drawn(0, ".....", ".OX..", ".X.X.", "..XO.", ".....");
         Checks.due("two corners of four", () -> two.point(12, 3), 1);
         Checks.due("counted as false", () -> two.colour(0, 4), 1);
         Checks.due("not as true", () -> two.colour(0, 3), 0);
-        CornerStones edge = drawn(0, ".X.X.", ".OX..", ".....", ".....", ".....");
+        CornerStones edge = Boards.drawn(0, ".X.X.", ".OX..", ".....", ".....", ".....");
         Checks.due("one corner of two", () -> edge.point(2, 3), 1);
-        CornerStones clear = drawn(0, ".X.X.", ".XX..", ".....", ".....", ".....");
+        CornerStones clear = Boards.drawn(0, ".X.X.", ".XX..", ".....", ".....", ".....");
         Checks.due("an own stone in the corner", () -> clear.point(2, 3), 2);
-        CornerStones wrapped = drawn(0, "..X..", "XX..X", "...X.", "O...X", ".....");
+        CornerStones wrapped = Boards.drawn(0, "..X..", "XX..X", "...X.", "O...X", ".....");
         Checks.due("the row's other end is no corner", () -> wrapped.point(14, 3), 2);
-        CornerStones corner = drawn(0, ".X...", "XO...", ".....", ".....", ".....");
+        CornerStones corner = Boards.drawn(0, ".X...", "XO...", ".....", ".....", ".....");
         Checks.due("the only corner of one", () -> corner.point(0, 3), 1);
         Checks.due("false eyes are none beside the group", () -> corner.point(1, 5), 0);
-        CornerStones mixed = drawn(0, ".....", "..X..", ".X.O.", "..X..", ".....");
+        CornerStones mixed = Boards.drawn(0, ".....", "..X..", ".X.O.", "..X..", ".....");
         Checks.due("a neighbour of the other colour", () -> mixed.point(12, 3), 0);
-        CornerStones open = drawn(0, ".....", "..X..", ".X...", "..X..", ".....");
+        CornerStones open = Boards.drawn(0, ".....", "..X..", ".X...", "..X..", ".....");
         Checks.due("an empty neighbour", () -> open.point(12, 3), 0);
-        CornerStones others = drawn(0, ".X...", "O....", ".....", "....X", "...X.");
+        CornerStones others = Boards.drawn(0, ".X...", "O....", ".....", "....X", "...X.");
         Checks.due("both colours at a corner point", () -> others.point(0, 3), 0);
         Checks.due("at the last point", () -> others.point(24, 3), 2);
     }
 
     private static void whyEmptyAndLiberty() {
-        CornerStones x = drawn(0, ".O.", "OO.", "..X");
+        CornerStones x = Boards.drawn(0, ".O.", "OO.", "..X");
         Checks.due("may be laid", () -> x.why(2), 0);
         Checks.due("not empty, an own stone", () -> x.why(8), 1);
         Checks.due("not empty, another's", () -> x.why(1), 1);
@@ -389,24 +330,14 @@ public final class PromisesTest {
         Checks.thrown("why of the highest", () -> x.why(Integer.MAX_VALUE), Checks.INDEX);
         x.pass();
         Checks.due("its owner may", () -> x.why(0), 0);
-        CornerStones taking = drawn(0, ".OX", "OX.", "X..");
+        CornerStones taking = Boards.drawn(0, ".OX", "OX.", "X..");
         Checks.due("a stone that takes has liberties", () -> taking.why(0), 0);
-        CornerStones joined = drawn(0, ".XO", "OO.", "...");
+        CornerStones joined = Boards.drawn(0, ".XO", "OO.", "...");
         Checks.due("its group would have none", () -> joined.why(0), 2);
     }
 
-    /** A ko: X takes at 7, and O may not take back at once. */
-    private static CornerStones ko(int setting) {
-        CornerStones x = new CornerStones();
-        x.set(setting);
-        draw(x, 0, ".XO..", "XO.O.", ".XO..", ".....", ".....");
-        x.play(7);
-        same(x, ".XO..", "X.XO.", ".XO..", ".....", ".....");
-        return x;
-    }
-
     private static void whyTheSameAgain() {
-        CornerStones x = ko(0);
+        CornerStones x = Boards.ko(0);
         Checks.due("the position ahead of the latest move", () -> x.why(6), 3);
         Checks.thrown("nor is it laid", () -> x.play(6), Checks.STATE);
         Checks.due("nor is it told what it would take", () -> x.ifPlayed(6, 0), -1);
@@ -426,7 +357,7 @@ public final class PromisesTest {
     }
 
     private static void whyAnyAgain() {
-        CornerStones x = ko(1);
+        CornerStones x = Boards.ko(1);
         Checks.due("any position that there was", () -> x.why(6), 3);
         x.pass();
         x.pass();
@@ -446,7 +377,7 @@ public final class PromisesTest {
     }
 
     private static void whyWithSet() {
-        CornerStones x = ko(0);
+        CornerStones x = Boards.ko(0);
         x.pass();
         x.pass();
         Checks.due("with 0 it may come", () -> x.why(6), 0);
@@ -460,7 +391,7 @@ public final class PromisesTest {
 
     /** Two stones are sent, one comes back: the position is that ahead of the latest three moves, not of the latest. */
     private static void whyTwoMovesBefore() {
-        CornerStones x = drawn(0, ".X.X.", "OOX..", ".....", ".....", ".....");
+        CornerStones x = Boards.drawn(0, ".X.X.", "OOX..", ".....", ".....", ".....");
         x.play(0);
         Checks.due("two are taken", () -> x.play(2), 2);
         Checks.due("a position before that ahead of the latest move", () -> x.why(1), 0);
@@ -469,11 +400,11 @@ public final class PromisesTest {
         Checks.thrown("it is not laid", () -> x.play(1), Checks.STATE);
         x.set(0);
         Checks.due("one is taken back", () -> x.play(1), 1);
-        same(x, ".X.X.", "OOX..", ".....", ".....", ".....");
+        Boards.same(x, ".X.X.", "OOX..", ".....", ".....", ".....");
     }
 
     private static void mostMoves() {
-        CornerStones x = drawn(0, ".O..", "OO..", "..XX", ".XX.");
+        CornerStones x = Boards.drawn(0, ".O..", "OO..", "..XX", ".XX.");
         while (x.about(1) < 119) {
             x.pass();
         }
@@ -501,7 +432,7 @@ public final class PromisesTest {
         Checks.due("then there is one left", () -> x.why(2), 0);
         Checks.due("a script's first pass is done, not its second", () -> x.runScript(2, 20002000), 1);
         x.pass();
-        CornerStones y = ko(1);
+        CornerStones y = Boards.ko(1);
         while (y.about(1) < 120) {
             y.pass();
         }
@@ -515,7 +446,7 @@ public final class PromisesTest {
     }
 
     private static void mostMovesInALadder() {
-        CornerStones x = drawn(0, "OX.", "...", "...");
+        CornerStones x = Boards.drawn(0, "OX.", "...", "...");
         while (x.about(1) < 120) {
             x.pass();
         }
@@ -525,7 +456,7 @@ public final class PromisesTest {
     }
 
     private static void board() {
-        CornerStones x = drawn(1, "OX.", "...", "...");
+        CornerStones x = Boards.drawn(1, "OX.", "...", "...");
         x.pass();
         x.play(3);
         x.pass();
@@ -547,16 +478,16 @@ public final class PromisesTest {
         for (int i = 0; i < 5; i++) {
             x.undo();
         }
-        same(x, ".X.", "X..", "...");
+        Boards.same(x, ".X.", "X..", "...");
         Checks.due("undo brings the captives back", () -> x.colour(0, 1), 1);
-        CornerStones y = drawn(0, "OX.", "...", "...");
+        CornerStones y = Boards.drawn(0, "OX.", "...", "...");
         y.board(3);
         Checks.thrown("points of the board before", () -> y.why(9), Checks.INDEX);
         y.pass();
         y.pass();
         y.board(3);
         Checks.due("passes of the board before", () -> y.about(4) + y.about(3), 0);
-        CornerStones z = drawn(1, "XO.", "...", "...");
+        CornerStones z = Boards.drawn(1, "XO.", "...", "...");
         z.play(3);
         Checks.due("captives of 1", () -> z.colour(1, 1), 1);
         z.board(3);
@@ -564,14 +495,14 @@ public final class PromisesTest {
     }
 
     private static void play() {
-        CornerStones x = drawn(0, "XO.X", "XOO.", ".XX.", "....");
+        CornerStones x = Boards.drawn(0, "XO.X", "XOO.", ".XX.", "....");
         Checks.due("nothing is taken", () -> x.play(2), 0);
-        CornerStones y = drawn(0, ".OX.", "XOOX", ".XX.", "....");
+        CornerStones y = Boards.drawn(0, ".OX.", "XOOX", ".XX.", "....");
         Checks.due("three are taken", () -> y.play(0), 3);
-        same(y, "X.X.", "X..X", ".XX.", "....");
+        Boards.same(y, "X.X.", "X..X", ".XX.", "....");
         Checks.due("captives", () -> y.colour(0, 1), 3);
         Checks.due("the other one has the turn", () -> y.about(2), 1);
-        CornerStones two = drawn(1, "XX.X", "OOO.", "....", "...O");
+        CornerStones two = Boards.drawn(1, "XX.X", "OOO.", "....", "...O");
         two.play(7);
         two.pass();
         Checks.due("two groups are taken at once", () -> two.play(2), 3);
@@ -581,7 +512,7 @@ public final class PromisesTest {
         Checks.thrown("play 16", () -> two.play(16), Checks.INDEX);
         int moves = two.about(1);
         Checks.due("what throws is no move", () -> two.about(1), moves);
-        CornerStones own = drawn(1, ".X..", "X...", "....", "...O");
+        CornerStones own = Boards.drawn(1, ".X..", "X...", "....", "...O");
         Checks.thrown("a stone without liberties", () -> own.play(0), Checks.STATE);
         Checks.due("the turn stays", () -> own.about(2), 1);
     }
@@ -640,16 +571,16 @@ public final class PromisesTest {
         Checks.due("the passes then", () -> x.about(3), 0);
         Checks.thrown("a call that throws", () -> x.play(1), Checks.STATE);
         Checks.due("is no action", () -> x.undo(), 0);
-        CornerStones y = drawn(0, "OX.", "...", "...");
+        CornerStones y = Boards.drawn(0, "OX.", "...", "...");
         y.play(3);
         y.undo();
-        same(y, "OX.", "...", "...");
+        Boards.same(y, "OX.", "...", "...");
         Checks.due("captives too", () -> y.colour(0, 1), 0);
         Checks.due("and the turn", () -> y.about(2), 0);
     }
 
     private static void ifPlayed() {
-        CornerStones x = drawn(0, ".OX..", "XOOX.", ".XX.O", "....X", ".....");
+        CornerStones x = Boards.drawn(0, ".OX..", "XOOX.", ".XX.O", "....X", ".....");
         Checks.due("what it would take", () -> x.ifPlayed(0, 0), 3);
         Checks.due("the liberties of its group", () -> x.ifPlayed(0, 1), 3);
         Checks.due("the stones of its group", () -> x.ifPlayed(0, 2), 2);
@@ -663,34 +594,34 @@ public final class PromisesTest {
         Checks.thrown("ifPlayed 25", () -> x.ifPlayed(25, 4), Checks.INDEX);
         Checks.thrown("ifPlayed 1, 4", () -> x.ifPlayed(1, 4), Checks.ARGUMENT);
         Checks.thrown("ifPlayed 0, -1", () -> x.ifPlayed(0, -1), Checks.ARGUMENT);
-        same(x, ".OX..", "XOOX.", ".XX.O", "....X", ".....");
+        Boards.same(x, ".OX..", "XOOX.", ".XX.O", "....X", ".....");
         Checks.due("it is no move", () -> x.about(2), 0);
     }
 
     private static void bestTakeAndChoices() {
         CornerStones none = new CornerStones();
         Checks.due("nothing to take", () -> none.bestTake(), -1);
-        CornerStones x = drawn(0, "OX...", ".....", ".X...", "XOX.X", ".O.OO");
+        CornerStones x = Boards.drawn(0, "OX...", ".....", ".X...", "XOX.X", ".O.OO");
         Checks.due("one at 5, two at none", () -> x.bestTake(), 5);
-        CornerStones more = drawn(0, "OX...", ".....", ".X..X", "XOXXO", ".OX.O");
+        CornerStones more = Boards.drawn(0, "OX...", ".....", ".X..X", "XOXXO", ".OX.O");
         Checks.due("two at 20 and at 23, one at 5", () -> more.bestTake(), 20);
-        CornerStones only = drawn(0, "OX...", ".....", "....X", "XO.XO", ".X..O");
+        CornerStones only = Boards.drawn(0, "OX...", ".....", "....X", "XO.XO", ".X..O");
         Checks.due("the most, not the lowest", () -> only.bestTake(), 23);
-        CornerStones own = drawn(1, "OX...", ".....", ".....", ".....", ".....");
+        CornerStones own = Boards.drawn(1, "OX...", ".....", ".....", ".....", ".....");
         Checks.due("not what the other one may take", () -> own.bestTake(), -1);
-        CornerStones again = ko(0);
+        CornerStones again = Boards.ko(0);
         Checks.due("nor what must not come again", () -> again.bestTake(), -1);
         again.pass();
         again.pass();
         Checks.due("but later", () -> again.bestTake(), 6);
-        CornerStones y = drawn(0, ".O.", "OO.", "..X");
+        CornerStones y = Boards.drawn(0, ".O.", "OO.", "..X");
         Checks.due("choices of 0", () -> y.choices(), 4);
         y.pass();
         Checks.due("choices of 1", () -> y.choices(), 5);
     }
 
     private static void ladderToTheEdge() {
-        CornerStones x = drawn(0, ".......", "..X....", ".XO....", "..X....", ".......", ".......", ".......");
+        CornerStones x = Boards.drawn(0, ".......", "..X....", ".XO....", "..X....", ".......", ".......", ".......");
         // the group at 16 has one liberty, at 17
         Checks.due("one liberty, the chaser's turn", () -> x.ladder(16, 0), 1);
         Checks.due("the owner comes out with three", () -> x.ladder(16, 1), 0);
@@ -701,62 +632,62 @@ public final class PromisesTest {
         Checks.thrown("ladder 49, 2", () -> x.ladder(49, 2), Checks.INDEX);
         Checks.thrown("ladder 17, 2", () -> x.ladder(17, 2), Checks.ARGUMENT);
         Checks.thrown("ladder 16, -1", () -> x.ladder(16, -1), Checks.ARGUMENT);
-        CornerStones y = drawn(1, ".......", "..XX...", ".XO....", ".......", ".......", ".......", ".......");
+        CornerStones y = Boards.drawn(1, ".......", "..XX...", ".XO....", ".......", ".......", ".......", ".......");
         Checks.due("two liberties, a ladder that works", () -> y.ladder(16, 0), 1);
         Checks.due("the turn of the game does not matter", () -> y.about(2), 1);
         Checks.due("two liberties, the owner's turn", () -> y.ladder(16, 1), 0);
-        CornerStones stuck = drawn(0, "OX...", ".X...", "X....", ".....", ".....");
+        CornerStones stuck = Boards.drawn(0, "OX...", ".X...", "X....", ".....", ".....");
         Checks.due("the owner cannot get out", () -> stuck.ladder(0, 1), 1);
-        CornerStones suicide = drawn(0, ".OX..", "OX...", ".....", ".....", ".....");
+        CornerStones suicide = Boards.drawn(0, ".OX..", "OX...", ".....", ".....", ".....");
         Checks.due("the chaser takes as always", () -> suicide.ladder(1, 0), 1);
     }
 
     private static void ladderThatFails() {
-        CornerStones breaker = drawn(0, ".......", "..XX...", ".XO....", ".......", ".......", ".....O.", ".......");
-        CornerStones plain = drawn(0, ".......", "..XX...", ".XO....", ".......", ".......", ".......", ".......");
+        CornerStones breaker = Boards.drawn(0, ".......", "..XX...", ".XO....", ".......", ".......", ".....O.", ".......");
+        CornerStones plain = Boards.drawn(0, ".......", "..XX...", ".XO....", ".......", ".......", ".......", ".......");
         Checks.due("without a stone in the way", () -> plain.ladder(16, 0), 1);
-        CornerStones near = drawn(0, ".......", "..XX...", ".XO....", "....O..", ".......", ".......", ".......");
+        CornerStones near = Boards.drawn(0, ".......", "..XX...", ".XO....", "....O..", ".......", ".......", ".......");
         Checks.due("with one in the way", () -> near.ladder(16, 0), 0);
         Checks.due("with one farther away", () -> breaker.ladder(16, 0), 0);
         Checks.due("and nothing chases it", () -> breaker.chase(16), -1);
-        CornerStones three = drawn(0, ".....", "..O..", ".X...", ".....", ".....");
+        CornerStones three = Boards.drawn(0, ".....", "..O..", ".X...", ".....", ".....");
         Checks.due("three liberties and more", () -> three.ladder(7, 0), 0);
         Checks.due("three for the owner", () -> three.ladder(7, 1), 0);
-        CornerStones takes = drawn(0, ".....", "..O..", "OXX..", "XO...", "X....");
+        CornerStones takes = Boards.drawn(0, ".....", "..O..", "OXX..", "XO...", "X....");
         Checks.due("a stone that the owner lays takes", () -> takes.ladder(takes.about(0) * 3 + 1, 1), 0);
     }
 
     /** Long ladders, found by a search: the number of stones that the chaser needs at least is known. */
     private static void ladderOfAtMostTwelve() {
-        CornerStones twelve = drawn(0, "O..O...", ".......", ".......", ".......", ".O.....", ".......", ".......");
+        CornerStones twelve = Boards.drawn(0, "O..O...", ".......", ".......", ".......", ".O.....", ".......", ".......");
         Checks.due("twelve stones", () -> twelve.ladder(0, 0), 1);
         Checks.due("chase with twelve", () -> twelve.chase(0), 1);
         Checks.due("a script with twelve", () -> twelve.runScript(1, 7001), -1);
-        CornerStones thirteen = drawn(0, "X.O.O..", ".......", ".......", ".......", "O.....O", "O......", ".O....O");
+        CornerStones thirteen = Boards.drawn(0, "X.O.O..", ".......", ".......", ".......", "O.....O", "O......", ".O....O");
         Checks.due("thirteen stones", () -> thirteen.ladder(48, 0), 0);
         Checks.due("chase with thirteen", () -> thirteen.chase(48), -1);
         Checks.due("a script with thirteen", () -> thirteen.runScript(1, 7480), -1);
         thirteen.play(41);
         Checks.due("behind the first of them, the owner's turn", () -> thirteen.ladder(48, 1), 1);
-        CornerStones fourteen = drawn(0, "OX.....", "O......", ".....O.", ".......", ".......", "....O..", ".OO....");
+        CornerStones fourteen = Boards.drawn(0, "OX.....", "O......", ".....O.", ".......", ".......", "....O..", ".OO....");
         Checks.due("fourteen stones", () -> fourteen.ladder(0, 0), 0);
         fourteen.play(14);
         Checks.due("thirteen for the owner", () -> fourteen.ladder(0, 1), 0);
     }
 
     private static void chase() {
-        CornerStones x = drawn(0, "OX...", ".....", ".....", ".....", ".....");
+        CornerStones x = Boards.drawn(0, "OX...", ".....", ".....", ".....", ".....");
         Checks.due("one liberty", () -> x.chase(0), 5);
         Checks.due("an empty point", () -> x.chase(24), -1);
         x.play(12);
         Checks.due("more than two", () -> x.chase(12), -1);
         Checks.thrown("chase -1", () -> x.chase(-1), Checks.INDEX);
         Checks.thrown("chase 25", () -> x.chase(25), Checks.INDEX);
-        CornerStones y = drawn(0, ".......", "..XX...", ".XO....", ".......", ".......", ".......", ".......");
+        CornerStones y = Boards.drawn(0, ".......", "..XX...", ".XO....", ".......", ".......", ".......", ".......");
         Checks.due("of 17 and 23 only the higher one works", () -> y.chase(16), 23);
-        CornerStones edge = drawn(0, ".O...", "XX...", ".....", ".....", ".....");
+        CornerStones edge = Boards.drawn(0, ".O...", "XX...", ".....", ".....", ".....");
         Checks.due("along the edge, the lowest", () -> edge.chase(1), 0);
-        CornerStones both = drawn(0, ".O.X.", "XXX..", ".....", ".....", ".....");
+        CornerStones both = Boards.drawn(0, ".O.X.", "XXX..", ".....", ".....", ".....");
         Checks.due("the lowest of two that work", () -> both.chase(1), 0);
         Checks.due("it is no action", () -> both.about(1) > 0 ? 1 : 0, 1);
     }
@@ -768,12 +699,12 @@ public final class PromisesTest {
         Checks.due("the whole board", () -> x.lead(), 25);
         x.play(0);
         Checks.due("one each", () -> x.lead(), 0);
-        CornerStones y = drawn(0, ".O.", "OO.", "..X");
+        CornerStones y = Boards.drawn(0, ".O.", "OO.", "..X");
         Checks.due("less", () -> y.lead(), -3);
     }
 
     private static void scriptCommands() {
-        CornerStones x = drawn(0, ".XO..", "XO.O.", ".XO..", ".....", ".....");
+        CornerStones x = Boards.drawn(0, ".XO..", "XO.O.", ".XO..", ".....", ".....");
         commandIs(x, 1070, true);
         commandIs(x, 1071, false);
         commandIs(x, 1010, false);
@@ -822,7 +753,7 @@ public final class PromisesTest {
         Checks.due("a script goes on from the state before", () -> x.runScript(4, 1070600130705063L), -1);
         Checks.due("it stops where it fails", () -> x.runScript(4, 1070600230705063L), 1);
         Checks.due("the last one fails", () -> x.runScript(4, 1070600130705062L), 3);
-        same(x, ".XO..", "XO.O.", ".XO..", ".....", ".....");
+        Boards.same(x, ".XO..", "XO.O.", ".XO..", ".....", ".....");
         Checks.due("it changes nothing", () -> x.about(2) + x.colour(0, 1), 0);
     }
 
@@ -885,7 +816,7 @@ public final class PromisesTest {
     }
 
     private static void saveAndRestore() {
-        CornerStones x = ko(1);
+        CornerStones x = Boards.ko(1);
         int moves = x.about(1);
         Checks.due("save", () -> x.save(0), moves);
         Checks.thrown("the other slot is empty", () -> x.restore(1), Checks.STATE);
@@ -894,7 +825,7 @@ public final class PromisesTest {
         x.play(0);
         Checks.due("save in the other slot", () -> x.save(1), 1);
         Checks.due("restore", () -> x.restore(0), moves);
-        same(x, ".XO..", "X.XO.", ".XO..", ".....", ".....");
+        Boards.same(x, ".XO..", "X.XO.", ".XO..", ".....", ".....");
         Checks.due("setting 0 comes back", () -> x.about(7), 1);
         Checks.due("captives come back", () -> x.colour(0, 1), 1);
         Checks.due("the positions come back", () -> x.why(6), 3);
@@ -902,7 +833,7 @@ public final class PromisesTest {
         x.pass();
         Checks.due("the slot keeps it", () -> x.restore(0), moves);
         Checks.due("so does the other one", () -> x.restore(1), 1);
-        same(x, "X..", "...", "...");
+        Boards.same(x, "X..", "...", "...");
         Checks.thrown("save -1", () -> x.save(-1), Checks.INDEX);
         Checks.thrown("save 2", () -> x.save(2), Checks.INDEX);
         Checks.thrown("restore -1", () -> x.restore(-1), Checks.INDEX);
