@@ -326,6 +326,11 @@ final class BoardBoundaries {
         for (int k : new int[] {0, 6, 13, 21, 42, 48}) {
             Checks.due("a long part from " + k, () -> path.point(k, 4), 31);
         }
+        CornerStones other = Boards.laid(7, 0, Boards.signs('X', PATH));
+        Checks.due("a long part beside the colour 1", () -> other.point(48, 4), 31);
+        CornerStones mixed = Boards.drawn(0, ".X.", "XO.", ".O.");
+        Checks.due("beside both colours", () -> mixed.point(2, 4), 3);
+        Checks.due("a part of one beside both", () -> mixed.point(6, 4), 1);
         CornerStones two = Boards.drawn(0, ".X.", "XX.", "...");
         Checks.due("a part of one", () -> two.point(0, 4), 1);
         Checks.due("the other one", () -> two.point(2, 4), 5);
@@ -404,6 +409,8 @@ final class BoardBoundaries {
         CornerStones y = new CornerStones();
         Boards.passTo(y, 120);
         Checks.due("the most", () -> y.about(3), 120);
+        CornerStones z = Boards.loaded("B3p00p01pp02");
+        Checks.due("all of them, not those in a row", () -> z.about(3), 4);
     }
 
     private static void twoPasses() {
@@ -565,9 +572,14 @@ final class BoardBoundaries {
             x.play(0);
             Checks.due("all but one", () -> x.point(all - 1, 4), all - 1);
             Checks.due("a stone", () -> x.point(0, 4), 0);
-            CornerStones most = Boards.fullButOne(rows, 0, all - 1);
-            Checks.due("only one", () -> most.point(all - 1, 4), 1);
-            Checks.due("a stone of many", () -> most.point(all - 2, 4), 0);
+            x.play(1);
+            Checks.due("all but two", () -> x.point(all - 1, 4), all - 2);
+            Checks.due("a stone of 1", () -> x.point(1, 4), 0);
+            for (int colour = 0; colour < 2; colour++) {
+                CornerStones most = Boards.fullButOne(rows, colour, all - 1);
+                Checks.due("only one", () -> most.point(all - 1, 4), 1);
+                Checks.due("a stone of many", () -> most.point(all - 2, 4), 0);
+            }
         }
     }
 

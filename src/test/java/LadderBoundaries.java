@@ -213,6 +213,8 @@ final class LadderBoundaries {
         CornerStones neither = Boards.drawn(0, ".......", "..XX...", ".XO....", "....O..", ".......", ".......", ".......");
         Checks.due("at neither", () -> neither.ladder(16, 0), 0);
         Checks.due("in the corner", () -> Boards.drawn(0, "O....", ".....", ".....", ".....", ".....").chase(0), 1);
+        CornerStones thirteen = Boards.drawn(0, ".O.....", ".......", "......O", "O......", "......O", "......O", ".XO....");
+        Checks.due("with d less 1 each time, thirteen are too many", () -> thirteen.ladder(44, 0), 0);
     }
 
     private static void threeLiberties() {

@@ -209,24 +209,14 @@ final class MoveBoundaries {
         same.play(24);
         same.pass();
         Checks.due("one stone more on another point", () -> same.why(6), 0);
-        // two are taken and one comes back: the same stones, but the other colour has the turn
-        CornerStones x = Boards.drawn(0, ".X.X.", "OOX..", ".....", ".....", ".....");
-        x.set(1);
-        x.play(0);
-        x.play(2);
-        Checks.due("whoever has the turn", () -> x.why(1), 3);
-        // the same points have stones, but those that O had are X's now
-        CornerStones y = new CornerStones();
-        y.set(1);
-        y.board(3);
-        y.pass();
-        y.play(0);
-        y.play(1);
-        y.pass();
-        y.play(3);
-        Boards.same(y, ".X.", "X..", "...");
-        y.pass();
-        Checks.due("another colour", () -> y.why(0), 0);
+        // two are taken and one comes back: the same stones as behind the move 6, when the colour 0 had the turn
+        CornerStones back = Boards.loaded("B5s01p030507060002");
+        Checks.due("it is the colour 0 that takes back", () -> back.about(2), 0);
+        Checks.due("then the colour 1 has the turn", () -> back.why(1), 3);
+        // behind five moves there were stones on the same points, but that at 0 was the other colour's
+        CornerStones swapped = Boards.loaded("B3s05030004010201");
+        Boards.same(swapped, ".X.", "OOX", "...");
+        Checks.due("stones of other colours", () -> swapped.why(0), 0);
     }
 
     /** On 3 rows, the colour 1 has all points but 0; before that the colour 0 had a single stone there, if it says so. */
@@ -276,6 +266,11 @@ final class MoveBoundaries {
         y.play(7);
         Checks.due("ahead of the move 120", () -> y.why(6), 3);
         Checks.due("the others", () -> y.why(24), 4);
+        CornerStones z = Boards.drawn(0, ".OX..", "OX.X.", ".OX..", ".....", ".....");
+        Boards.passTo(z, 118);
+        z.play(24);
+        z.play(7);
+        Checks.due("there only since the move 119", () -> z.why(6), 3);
     }
 
     private static void anyPosition() {
@@ -323,6 +318,13 @@ final class MoveBoundaries {
         y.play(7);
         Boards.passTo(y, 119);
         Checks.due("the position behind the move 116", () -> y.why(6), 3);
+        CornerStones z = new CornerStones();
+        z.set(1);
+        Boards.draw(z, 0, ".OX..", "OX.X.", ".OX..", ".....", ".....");
+        Boards.passTo(z, 118);
+        z.play(24);
+        z.play(7);
+        Checks.due("there only since the move 119", () -> z.why(6), 3);
     }
 
     private static void positionsOfThisBoard() {
@@ -393,9 +395,31 @@ final class MoveBoundaries {
             z.play(k);
         }
         Checks.due("it was taken back long ago", () -> z.why(0), 0);
+        for (int setting = 0; setting < 2; setting++) {
+            CornerStones back = Boards.loaded("B5" + (setting == 1 ? "s" : "") + KO);
+            back.board(5);
+            Boards.passTo(back, 10);
+            for (int i = 0; i < 11; i++) {
+                back.undo();
+            }
+            back.play(7);
+            Checks.due("the latest one behind undo, setting 0 as " + setting, () -> back.why(6), 3);
+        }
     }
 
+    /** The colour 0 is about to take at 7, where the other one must not take back at 6; eight moves. */
+    private static final String KO = "010205081112p06";
+
     private static void positionsRestored() {
+        for (int setting = 0; setting < 2; setting++) {
+            CornerStones y = Boards.loaded("B5" + (setting == 1 ? "s" : "") + KO);
+            y.save(0);
+            y.board(5);
+            Boards.passTo(y, 20);
+            y.restore(0);
+            y.play(7);
+            Checks.due("the latest one of those that were saved, setting 0 as " + setting, () -> y.why(6), 3);
+        }
         CornerStones x = Boards.ko(1);
         x.save(0);
         x.board(5);
@@ -431,6 +455,7 @@ final class MoveBoundaries {
         Checks.due("none", () -> x.play(8), 0);
         x.pass();
         Checks.due("one", () -> x.play(3), 1);
+        Checks.due("none, and what was taken before does not count", () -> x.play(5), 0);
         Checks.due("two", () -> Boards.drawn(1, "XXO", "O..", "...").play(4), 2);
         Checks.due("four of four groups", () -> Boards.drawn(0, "..X..", ".XOX.", "XO.OX", ".XOX.", "..X..").play(12), 4);
         Checks.due("48", () -> Boards.fullButOne(7, 1, 48).play(48), 48);
@@ -455,6 +480,8 @@ final class MoveBoundaries {
         x.set(1);
         Checks.due("the empty position comes again", () -> x.pass(), 1);
         Checks.due("and again", () -> x.pass(), 2);
+        Checks.due("behind two passes", () -> x.pass(), 3);
+        Checks.due("behind three", () -> x.pass(), 4);
         CornerStones y = Boards.fullButOne(7, 0, 0);
         y.pass();
         Checks.due("no choices", () -> y.choices(), 0);
@@ -475,6 +502,7 @@ final class MoveBoundaries {
         Checks.due("one", () -> Boards.drawn(1, ".X.", "...", "...").ifPlayed(0, 1), 1);
         Checks.due("two in a corner", () -> new CornerStones().ifPlayed(24, 1), 2);
         Checks.due("four", () -> new CornerStones().ifPlayed(12, 1), 4);
+        Checks.due("those of the stones that it joins", () -> Boards.drawn(0, "X..", "...", "...").ifPlayed(1, 1), 3);
         Checks.due("a taken one's point", () -> Boards.drawn(1, ".XO", "XO.", "O..").ifPlayed(0, 1), 2);
         Checks.due("one that is left", () -> Boards.drawn(0, "X.X", "X.X", "XXX").ifPlayed(1, 1), 1);
         Checks.due("behind taking all", () -> Boards.fullButOne(7, 0, 24).ifPlayed(24, 1), 4);

@@ -40,7 +40,7 @@ final class RefusedBoundaries {
         Boards.takeKo(x);
         x.save(1);
         x.set(0);
-        x.set(0);
+        x.set(1);
     }
 
     /** A full text that is no game, 120 moves, fourteen states and both slots, 7 rows. */
@@ -196,6 +196,7 @@ final class RefusedBoundaries {
                 int slot = i;
                 Answers.refused("a new object", NEW, x -> x.restore(slot), Checks.STATE);
                 Answers.refused("the other one is saved", x -> {
+                    Boards.write(x, "B3p");
                     for (int n = 0; n < 20; n++) {
                         x.pass();
                     }

@@ -149,6 +149,10 @@ final class ScriptBoundaries {
         x.set(0);
         Checks.due("with setting 0 as 0", () -> x.runScript(3, 200020005060L), -1);
         Checks.due("still on the board", () -> x.why(6), 3);
+        CornerStones ready = Boards.drawn(0, ".XO..", "XO.O.", ".XO..", ".....", ".....");
+        Checks.due("the latest position is known to the copy", () -> ready.runScript(2, 10705063), -1);
+        ready.set(1);
+        Checks.due("with setting 0 as 1 too", () -> ready.runScript(2, 10705063), -1);
         CornerStones last = new CornerStones();
         Boards.passTo(last, 118);
         Checks.due("its moves are counted on", () -> last.runScript(3, 200020002000L), 2);
@@ -509,6 +513,9 @@ final class ScriptBoundaries {
         CornerStones ko = Boards.ko(0);
         int before = 10000 + 100 * ko.about(5) + ko.colour(0, 0);
         Checks.due("the position", () -> ko.simulate(seedFor(16 * 6 + 1), 1), before);
+        CornerStones ready = Boards.drawn(0, ".XO..", "XO.O.", ".XO..", ".....", ".....");
+        int behind = 10000 + 100 * ready.about(5) + ready.colour(0, 0) + 1;
+        Checks.due("the position that came within it", () -> ready.simulate(seedForTwo(7, 6), 2), behind);
         CornerStones full = new CornerStones();
         full.board(7);
         Boards.passTo(full, 119);
@@ -521,19 +528,20 @@ final class ScriptBoundaries {
         Checks.due("there is none left", () -> full.simulate(1, 100), 0);
         CornerStones again = new CornerStones();
         // both turns are the same point: the second is left out, and no turn of the game
-        Checks.due("twice the same point", () -> again.simulate(samePointTwice(), 2), 101);
+        Checks.due("twice the same point", () -> again.simulate(seedForTwo(1, 1), 2), 101);
+        Checks.due("two points", () -> again.simulate(seedForTwo(1, 2), 2), 201);
     }
 
-    private static long samePointTwice() {
+    /** A seed whose first two turns are stones at these points of a board with 25. */
+    private static long seedForTwo(int k, int then) {
         for (long low = 0; low < 100000; low++) {
-            long first = 17L << 33 | low;
-            long second = first * 6364136223846793005L + 1442695040888963407L;
-            long r = second >>> 33;
-            if (r % 16 != 0 && r / 16 % 25 == 1) {
+            long first = 16L * k + 1 << 33 | low;
+            long r = first * 6364136223846793005L + 1442695040888963407L >>> 33;
+            if (r % 16 != 0 && r / 16 % 25 == then) {
                 return seedBefore(first);
             }
         }
-        return 0;
+        throw new IllegalStateException("there is no such seed");
     }
 
     private static void numberAtTheEnd() {

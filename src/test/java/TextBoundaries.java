@@ -255,6 +255,19 @@ final class TextBoundaries {
         erring("B5" + "p".repeat(116) + "0", 119);
         erring("B5" + "p".repeat(117) + "4", 120);
         erring("B5s" + "00".repeat(58) + "4", 120);
+        endsAheadOfTheTextBefore("B548", "B54");
+        endsAheadOfTheTextBefore("B500", "B50");
+        endsAheadOfTheTextBefore("B5", "B");
+        endsAheadOfTheTextBefore("B5", "");
+        endsAheadOfTheTextBefore("B5" + "48".repeat(59), "B5" + "48".repeat(58) + "4");
+    }
+
+    /** Nothing of a longer text that was emptied counts, not even where it would go on. */
+    private static void endsAheadOfTheTextBefore(String before, String text) {
+        CornerStones x = new CornerStones();
+        Boards.write(x, before);
+        Boards.write(x, text);
+        Checks.due("errorPosition of " + text + " behind " + before, () -> x.errorPosition(), text.length());
     }
 
     private static void asNew() {
@@ -309,6 +322,11 @@ final class TextBoundaries {
         Boards.write(x, "B5p");
         x.load();
         Checks.due("without s it is 0 again", () -> x.about(7), 0);
+        CornerStones shorter = new CornerStones();
+        Boards.write(shorter, "B5sp");
+        Boards.write(shorter, "B5");
+        shorter.load();
+        Checks.due("an s of the text before does not count", () -> shorter.about(7), 0);
         Checks.due("without s the stone is laid", () -> Boards.loaded("B300" + ALL_BUT_0 + "00").stones(0), 1);
         Checks.due("with s it is left out", () -> Boards.loaded("B3s00" + ALL_BUT_0 + "00").stones(0), 0);
     }
