@@ -14,6 +14,8 @@ public final class BoundariesTest {
         ActionBoundaries.run();
         ScriptBoundaries.run();
         RefusedBoundaries.run();
+        CallBoundaries.run();
+        DocumentWalk.run();
         for (int promise = 1; promise <= 26; promise++) {
             Checks.same("promise " + promise + " has sentences", "" + (Checks.sentencesOf(promise) > 0), "true");
         }

@@ -2,6 +2,8 @@ import java.io.IOException;
 import java.nio.charset.StandardCharsets;
 import java.nio.file.Files;
 import java.nio.file.Path;
+import java.util.ArrayList;
+import java.util.List;
 import java.util.TreeSet;
 
 /** Counts what the tests of one main method find; every wrong answer is printed. */
@@ -77,12 +79,29 @@ final class Checks {
         return count;
     }
 
-    private static boolean isInDocument(String sentence) {
-        String document = System.getProperty("document", "");
-        return document.isEmpty() || plain(read(document)).contains(plain(sentence));
+    /** The sentences that have a test whose promise begins so. */
+    static List<String> sentences(String promise) {
+        List<String> found = new ArrayList<>();
+        for (String one : TITLES) {
+            if (one.startsWith(promise)) {
+                found.add(one.substring(one.indexOf(" | ") + 3));
+            }
+        }
+        return found;
     }
 
-    private static String read(String file) {
+    private static boolean isInDocument(String sentence) {
+        String document = document();
+        return document.isEmpty() || plain(document).contains(plain(sentence));
+    }
+
+    /** The whole document; empty if it is not there. */
+    static String document() {
+        String file = System.getProperty("document", "");
+        return file.isEmpty() ? "" : read(file);
+    }
+
+    static String read(String file) {
         try {
             return Files.readString(Path.of(file), StandardCharsets.UTF_8);
         } catch (IOException e) {
@@ -91,7 +110,7 @@ final class Checks {
     }
 
     /** The words alone, as the document breaks its lines anywhere. */
-    private static String plain(String text) {
+    static String plain(String text) {
         return text.replace("`", "").replaceAll("\\s+", " ");
     }
 

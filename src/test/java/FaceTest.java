@@ -7,6 +7,8 @@ import java.nio.file.Files;
 import java.nio.file.Path;
 import java.util.Arrays;
 import java.util.TreeSet;
+import java.util.regex.Matcher;
+import java.util.regex.Pattern;
 
 /** The class has the document's public face and no more, and its file keeps to the rules that a text can show. */
 public final class FaceTest {
@@ -42,6 +44,7 @@ public final class FaceTest {
 
     public static void main(String[] args) throws Exception {
         face();
+        faceOfDocument();
         classesInside();
         source(Files.readString(Path.of(System.getProperty("source")), StandardCharsets.ISO_8859_1));
         Checks.end("FaceTest");
@@ -67,7 +70,41 @@ public final class FaceTest {
         Checks.same("its superclass", CornerStones.class.getSuperclass().getName(), "java.lang.Object");
     }
 
-    private static String asText(Method method) {
+    /** The document's own face, when the document is there: the same methods, with the same exceptions in their order. */
+    private static void faceOfDocument() {
+        String document = Checks.document();
+        Matcher block = Pattern.compile("(?s)```java(.*?)```").matcher(document);
+        if (!block.find()) {
+            Checks.same("the document without a face", document, "");
+            return;
+        }
+        TreeSet<String> found = new TreeSet<>();
+        Matcher method = Pattern.compile("public ((?:int|long) [^;=]*\\))([^;]*);").matcher(block.group(1));
+        while (method.find()) {
+            found.add(withoutNames(method.group(1)) + method.group(2).replace(" throws", "").replace(",", ""));
+        }
+        Checks.same("the methods of the document", found.toString(), new TreeSet<>(Arrays.asList(FACE)).toString());
+    }
+
+    /** A signature with the types alone: int point(int k, int what) becomes int point(int,int). */
+    static String withoutNames(String signature) {
+        return signature.replaceAll("(int|long) \\w+([,)])", "$1$2").replace(", ", ",");
+    }
+
+    /** The comments that part the face stand ahead of the calls that the document names. */
+    private static void sectionsOfFace(String text) {
+        Matcher section = Pattern.compile("Ahead of the calls ([^:]*) the interface says: (---- [^.]*)\\.").matcher(Checks.document());
+        while (section.find()) {
+            int from = text.indexOf("// " + section.group(2) + "\n");
+            int to = from < 0 ? -1 : text.indexOf("// ----", from + 1);
+            String part = from < 0 ? "" : text.substring(from, to < 0 ? text.length() : to);
+            for (String name : section.group(1).replace("`", "").split(", ")) {
+                Checks.same(name + " behind " + section.group(2), "" + part.contains(" " + name + "("), "true");
+            }
+        }
+    }
+
+    static String asText(Method method) {
         StringBuilder text = new StringBuilder(method.getReturnType() + " " + method.getName());
         text.append(Arrays.toString(method.getParameterTypes()).replace('[', '(').replace(']', ')').replace(" ", ""));
         for (Class<?> thrown : method.getExceptionTypes()) {
@@ -108,5 +145,6 @@ public final class FaceTest {
             plain &= text.charAt(i) == '\n' || (text.charAt(i) >= 32 && text.charAt(i) < 127);
         }
         Checks.same("the file is plain ASCII", "" + plain, "true");
+        sectionsOfFace(text);
     }
 }

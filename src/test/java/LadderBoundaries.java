@@ -27,7 +27,8 @@ final class LadderBoundaries {
                 LadderBoundaries::twelveForChaser);
         Checks.holds("Promise 20, ladder", "Whether a ladder works is told for who has the turn, and a number d",
                 LadderBoundaries::twelveForOwner);
-        Checks.holds("Promise 20, ladder", "it works if d is not 0, and the group has one liberty,",
+        Checks.holds("Promise 20, ladder", "If the chaser has the turn, it works if d is not 0, and the group has one"
+                + " liberty,",
                 LadderBoundaries::lastStoneTakes);
         Checks.holds("Promise 20, ladder", "and if d is not 0, and the group has two liberties,",
                 LadderBoundaries::lastStoneHolds);
@@ -47,8 +48,9 @@ final class LadderBoundaries {
     private static void ownersTurn() {
         Checks.holds("Promise 20, ladder", "If the owner has the turn, it works if the group has one liberty, and the owner may"
                 + " not lay a stone there;", LadderBoundaries::ownerStuck);
-        Checks.holds("Promise 20, ladder", "behind a stone that the owner lays there its group has one or two liberties, and"
-                + " the ladder on that works, if the chaser has the turn, with d.", LadderBoundaries::ownerGoesOn);
+        Checks.holds("Promise 20, ladder", "and if the group has one liberty, and behind a stone that the owner lays there its"
+                + " group has one or two liberties, and the ladder on that works, if the chaser has the turn, with d.",
+                LadderBoundaries::ownerGoesOn);
         Checks.holds("Promise 20, ladder", "with d. Otherwise it does not work.", LadderBoundaries::ownerGetsOut);
     }
 

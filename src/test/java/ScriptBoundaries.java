@@ -9,6 +9,7 @@ final class ScriptBoundaries {
         Checks.holds("Promise 23, runScript", "n: number of commands, 1 to 4", ScriptBoundaries::numberOfCommands);
         Checks.holds("Promise 23, runScript", "script: the commands, a number of at most 4 * n digits (0 or more)",
                 ScriptBoundaries::numberOfDigits);
+        Checks.holds("Promise 23, runScript", "A script has 1 to 4 commands;", ScriptBoundaries::oneToFour);
         Checks.holds("Promise 23, runScript", "each is a group of four decimal digits d1 to d4, and the first command is the"
                 + " highest group of the number", ScriptBoundaries::highestFirst);
         Checks.holds("Promise 23, runScript", "(with zeros before it, if it has fewer digits).", ScriptBoundaries::zerosBefore);
@@ -49,6 +50,7 @@ final class ScriptBoundaries {
     private static void simulations() {
         Checks.holds("Promise 24, simulate", "m: number of turns, 1 to 100", ScriptBoundaries::numberOfTurns);
         Checks.holds("Promise 24, simulate", "seed: any long", ScriptBoundaries::anySeed);
+        Checks.holds("Promise 24, simulate", "A long x starts as the seed.", ScriptBoundaries::startsAsSeed);
         Checks.holds("Promise 24, simulate", "Each turn first replaces x by x * 6364136223846793005L +"
                 + " 1442695040888963407L (with long overflow), and r = (int) (x >>> 33) is computed;",
                 ScriptBoundaries::overflow);
@@ -98,6 +100,21 @@ final class ScriptBoundaries {
         }
         Checks.due("all nines behind a pass", () -> x.runScript(2, 20009999), 1);
         Checks.due("all nines behind three", () -> x.runScript(4, 2000200020009999L), 3);
+    }
+
+    private static void oneToFour() {
+        CornerStones x = new CornerStones();
+        long script = 0;
+        for (int i = 1; i <= 4; i++) {
+            int n = i;
+            script = script * 10000 + 2000;
+            long passes = script;
+            Checks.due(n + " passes", () -> x.runScript(n, passes), -1);
+            Checks.due("the last of " + n + " fails", () -> x.runScript(n, passes + 1), n - 1);
+            Checks.thrown("they are more than " + (n - 1), () -> x.runScript(n - 1, passes), Checks.ARGUMENT);
+        }
+        Checks.thrown("five", () -> x.runScript(5, 2000200020002000L), Checks.ARGUMENT);
+        Checks.thrown("none", () -> x.runScript(0, 0), Checks.ARGUMENT);
     }
 
     private static void highestFirst() {
@@ -455,6 +472,28 @@ final class ScriptBoundaries {
 
     private static long seedFor(long r) {
         return seedBefore(r << 33);
+    }
+
+    /** Behind the seed that the point needs, the first turn lays there. */
+    private static void startsAsSeed() {
+        for (int k = 0; k < 25; k++) {
+            CornerStones x = new CornerStones();
+            // all points but this one and its neighbours have stones then, so that a stone elsewhere would be left out
+            long keep = 1L << k | Boards.neighbours(5, k);
+            for (int i = 0; i < 25; i++) {
+                if ((keep >>> i & 1) == 0) {
+                    Boards.turnTo(x, 0);
+                    x.play(i);
+                }
+            }
+            Boards.turnTo(x, 1);
+            int groups = x.colour(0, 5) + 1;
+            int stones = x.colour(0, 0);
+            long seed = seedFor(16L * k + 1);
+            Checks.due("a stone at " + k, () -> x.simulate(seed, 1), 100L * groups + stones);
+        }
+        CornerStones none = new CornerStones();
+        Checks.due("the seed itself is no turn", () -> none.simulate(seedFor(0), 1), 0);
     }
 
     private static void everySixteenth() {
