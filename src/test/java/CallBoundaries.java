@@ -204,6 +204,12 @@ final class CallBoundaries {
         y.play(0);
         Checks.thrown("a stone on a stone", () -> y.play(0), Checks.STATE);
         Checks.due("beside it", () -> y.play(1), 0);
+        y.undo();
+        Checks.due("undo of the only action left", () -> y.undo(), 0);
+        Checks.thrown("undo of nothing left", () -> y.undo(), Checks.STATE);
+        Boards.passTo(y, 119);
+        Checks.due("the last pass", () -> y.pass(), 120);
+        Checks.thrown("a pass too many", () -> y.pass(), Checks.STATE);
     }
 
     private static void none() {
@@ -371,13 +377,13 @@ final class CallBoundaries {
     }
 
     private static CornerStones someColours() {
-        return Boards.drawn(0, ".X.X...", "XX.XX..", "..X..OO", "....O.O", "...O.OO", "X..OO..", ".X..O.O");
+        return Boards.drawn(0, ".X.X...", "XXXXX..", "..X..OO", "....O.O", "...O.OO", "X..OO..", ".X..O.O");
     }
 
     private static void eachNumberOfColour() {
         CornerStones x = someColours();
-        // the colour 0 has eyes at 0 and 42, and the part of 2 and 9; the other one eyes at 26 and 32, and the part of 40
-        colourIs(x, 0, 9, 0, 13, 2, 0, 5);
+        // the colour 0 has eyes at 0, 2 and 42; the other one eyes at 26 and 32, and the part of 40, 41 and 47
+        colourIs(x, 0, 10, 0, 13, 3, 0, 3);
         colourIs(x, 1, 11, 0, 16, 2, 0, 4);
     }
 
@@ -408,39 +414,32 @@ final class CallBoundaries {
         Checks.due("right of it", () -> wall.colour(1, 2), 28);
     }
 
-    private static void pointIs(CornerStones x, int k, int... want) {
-        for (int i = 0; i < want.length; i++) {
-            int what = i;
-            Checks.due("point " + k + ", " + what, () -> x.point(k, what), want[what]);
-        }
-    }
-
     private static void eachNumberOfPoint() {
         CornerStones x = someColours();
-        pointIs(x, 0, -1, 0, 0, 2, 1, 0);
-        pointIs(x, 1, 0, 3, 5, 0, 0, 1);
-        pointIs(x, 7, 0, 3, 5, 0, 0, 1);
-        pointIs(x, 19, 1, 5, 7, 0, 0, 2);
-        pointIs(x, 42, -1, 0, 0, 2, 1, 0);
-        pointIs(x, 47, -1, 0, 0, 0, 3, 0);
+        PromisesTest.pointIs(x, 0, -1, 0, 0, 2, 1, 0);
+        PromisesTest.pointIs(x, 1, 0, 8, 9, 0, 0, 2);
+        PromisesTest.pointIs(x, 7, 0, 8, 9, 0, 0, 2);
+        PromisesTest.pointIs(x, 19, 1, 5, 7, 0, 0, 2);
+        PromisesTest.pointIs(x, 42, -1, 0, 0, 2, 1, 0);
+        PromisesTest.pointIs(x, 47, -1, 0, 0, 0, 3, 0);
     }
 
     private static void numbersOfPointGoOn() {
         CornerStones x = new CornerStones();
         x.board(3);
-        pointIs(x, 0, -1, 0, 0, 0, 9, 0);
+        PromisesTest.pointIs(x, 0, -1, 0, 0, 0, 9, 0);
         x.play(1);
-        pointIs(x, 0, -1, 0, 0, 0, 8, 0);
-        pointIs(x, 1, 0, 1, 3, 0, 0, 0);
+        PromisesTest.pointIs(x, 0, -1, 0, 0, 0, 8, 0);
+        PromisesTest.pointIs(x, 1, 0, 1, 3, 0, 0, 0);
         x.play(0);
-        pointIs(x, 0, 1, 1, 1, 0, 0, 0);
-        pointIs(x, 1, 0, 1, 2, 0, 0, 0);
+        PromisesTest.pointIs(x, 0, 1, 1, 1, 0, 0, 0);
+        PromisesTest.pointIs(x, 1, 0, 1, 2, 0, 0, 0);
         x.play(3);
-        pointIs(x, 0, -1, 0, 0, 2, 1, 0);
-        pointIs(x, 1, 0, 1, 3, 0, 0, 1);
+        PromisesTest.pointIs(x, 0, -1, 0, 0, 2, 1, 0);
+        PromisesTest.pointIs(x, 1, 0, 1, 3, 0, 0, 1);
         x.play(4);
-        pointIs(x, 0, -1, 0, 0, 1, 1, 0);
-        pointIs(x, 1, 0, 1, 2, 0, 0, 0);
+        PromisesTest.pointIs(x, 0, -1, 0, 0, 1, 1, 0);
+        PromisesTest.pointIs(x, 1, 0, 1, 2, 0, 0, 0);
     }
 
     private static void groups() {
@@ -606,13 +605,9 @@ final class CallBoundaries {
         Checks.due("the only point, without a liberty", () -> own.choices(), 0);
     }
 
-    private static CornerStones open() {
-        return Boards.drawn(0, ".......", "..XX...", ".XO....", ".......", ".......", ".......", ".......");
-    }
-
     /** The chaser lays where it should, the owner at its only liberty, until the group is taken. */
     private static void ladders() {
-        CornerStones x = open();
+        CornerStones x = LadderBoundaries.open();
         Checks.due("it works", () -> x.ladder(16, 0), 1);
         int laid = 0;
         while (x.point(16, 0) == 1 && laid < 12) {
@@ -635,7 +630,7 @@ final class CallBoundaries {
 
     private static void chases() {
         String[] far = {".......", "..XX...", ".XO....", ".......", ".......", ".....O.", "......."};
-        for (CornerStones x : new CornerStones[] {open(), Boards.drawn(0, far)}) {
+        for (CornerStones x : new CornerStones[] {LadderBoundaries.open(), Boards.drawn(0, far)}) {
             int want = -1;
             for (int k : new int[] {23, 17}) {
                 Boards.turnTo(x, 0);
@@ -646,7 +641,7 @@ final class CallBoundaries {
             int first = want;
             Checks.due("the first stone, laid and asked", () -> x.chase(16), first);
         }
-        Checks.due("in the open", () -> open().chase(16), 23);
+        Checks.due("in the open", () -> LadderBoundaries.open().chase(16), 23);
         Checks.due("with a stone in the way", () -> Boards.drawn(0, far).chase(16), -1);
     }
 

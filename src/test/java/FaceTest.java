@@ -93,7 +93,8 @@ public final class FaceTest {
 
     /** The comments that part the face stand ahead of the calls that the document names. */
     private static void sectionsOfFace(String text) {
-        Matcher section = Pattern.compile("Ahead of the calls ([^:]*) the interface says: (---- [^.]*)\\.").matcher(Checks.document());
+        Pattern sentence = Pattern.compile("Ahead of the calls ([^:]*) the interface says: (---- [^.]*)\\.");
+        Matcher section = sentence.matcher(Checks.document());
         while (section.find()) {
             int from = text.indexOf("// " + section.group(2) + "\n");
             int to = from < 0 ? -1 : text.indexOf("// ----", from + 1);

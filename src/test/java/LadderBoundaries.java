@@ -59,7 +59,7 @@ final class LadderBoundaries {
         Checks.due("ladder " + k + ", the owner's turn", () -> x.ladder(k, 1), owner);
     }
 
-    private static CornerStones open() {
+    static CornerStones open() {
         return Boards.drawn(0, ".......", "..XX...", ".XO....", ".......", ".......", ".......", ".......");
     }
 
@@ -182,6 +182,7 @@ final class LadderBoundaries {
         for (int b = 2; b < 10; b++) {
             int other = b;
             Checks.due("no " + other, () -> one.runScript(1, 7000 + other), 0);
+            Checks.due("nor if it does not work", () -> thirteen.runScript(1, 7480 + other), 0);
         }
         Checks.due("an empty point", () -> one.runScript(1, 7080), 0);
         Checks.due("no empty point has one", () -> one.runScript(1, 7081), 0);
@@ -250,6 +251,9 @@ final class LadderBoundaries {
         Checks.due("in the corner", () -> Boards.drawn(0, "O..", "...", "...").ladder(0, 1), 0);
         // behind the owner's stone there are three liberties
         ladderIs(Boards.drawn(0, ".......", "..X....", ".XO....", "..X....", ".......", ".......", "......."), 16, 1, 0);
+        // two liberties, both of them eyes, so that the owner would have none if it laid a stone at each
+        ladderIs(Boards.drawn(0, ".O.OX", "OOOOX", "XXXX.", ".....", "....."), 1, 0, 0);
+        ladderIs(Boards.drawn(0, ".O.O", "OOOO", "XXXX", "...."), 1, 0, 0);
         Checks.due("its stone joins another group", () -> Boards.drawn(0, "OX...", ".....", "O....", ".....", ".....").ladder(0, 1), 0);
     }
 

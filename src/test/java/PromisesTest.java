@@ -286,7 +286,7 @@ public final class PromisesTest {
         Checks.due("none beside no stone", () -> y.point(0, 5), 0);
     }
 
-    private static void pointIs(CornerStones x, int k, int... want) {
+    static void pointIs(CornerStones x, int k, int... want) {
         for (int what = 0; what < want.length; what++) {
             int w = what;
             Checks.due("point " + k + ", " + w, () -> x.point(k, w), want[w]);

@@ -272,6 +272,25 @@ final class ScriptBoundaries {
         for (int c = 2; c < 10; c++) {
             commandIs(most, 6000 + 100 * c, false);
         }
+        moreCaptivesThanPoints();
+    }
+
+    /** Behind 48 stones that are taken at once, a stone in each of two corners is laid and taken. */
+    private static void moreCaptivesThanPoints() {
+        for (int c = 0; c < 2; c++) {
+            CornerStones x = Boards.fullButOne(7, 1 - c, 48);
+            x.play(48);
+            int[][] corners = {{0, 1, 7}, {6, 5, 13}};
+            for (int[] corner : corners) {
+                Boards.turnTo(x, 1 - c);
+                x.play(corner[0]);
+                x.play(corner[1]);
+                Boards.turnTo(x, c);
+                x.play(corner[2]);
+            }
+            commandIs(x, 6050 + 100 * c, true);
+            commandIs(x, 6051 + 100 * c, false);
+        }
     }
 
     private static void command8() {

@@ -422,6 +422,11 @@ final class TextBoundaries {
             x.save(slot);
             Checks.due("saved behind it", () -> x.restore(slot), 0);
             Checks.thrown("the other one is still empty", () -> x.restore(1 - slot), Checks.STATE);
+            Boards.write(x, "B30000p48");
+            x.save(1 - slot);
+            Checks.due("with moves that are left out", () -> x.load(), 2);
+            Checks.thrown("one of them then", () -> x.restore(slot), Checks.STATE);
+            Checks.thrown("the other one then", () -> x.restore(1 - slot), Checks.STATE);
         }
     }
 
